@@ -380,7 +380,7 @@ public final class StreamQuery {
      * key: in the order of telling, so that a mark only takes them off its front.
      */
     private static final class Groups {
-        /** Stands before all groups and is none, so that each group has one before it. */
+        /** Stands before all groups and is none, so that each group has one before it; no window ends so early. */
         private final Group head = new Group(Integer.MIN_VALUE, Integer.MIN_VALUE, null);
 
         void clear() {
@@ -419,7 +419,7 @@ public final class StreamQuery {
             int windows = 0;
             Group before = head;
             for (Group g = head.next; g != null && g.end <= lastEnd; g = g.next) {
-                if (before == head || before.end != g.end) {
+                if (before.end != g.end) {
                     windows++;
                 }
                 before = g;

@@ -96,10 +96,11 @@ public final class PromisesTest {
         for (int i = 0; i < 20; i++) {
             told.eventB(0, 0, i);
         }
+        told.eventB(0, 1, 0);
         for (int i = 0; i < 10; i++) {
             due("line is 200", told.eventA(0, 0, i), 20);
         }
-        due("line is 200", told.eventA(0, 0, 0), FULL);
+        due("line is 200", told.eventA(0, 1, 0), FULL);
         due("line is 200", told.available(), 200);
     }
 
@@ -160,6 +161,7 @@ public final class PromisesTest {
         q.eventB(6, 1, 8);
         bothMarks(q, 9, 1);
         due("late", q.eventA(8, 0, 0), LATE);
+        due("eventB", q.eventB(60, 1, 8), 0);
         due("set", q.set(8, 4, 0, 2, 9, 9), 0);
         counts(q, 0, 0, 0, FIRST_MARK, FIRST_MARK, 0, 0, 0, 0);
         due("mark", q.mark(), FIRST_MARK);
